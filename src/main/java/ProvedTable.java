@@ -308,7 +308,7 @@ public final class ProvedTable {
   }
 
   public int proofs(int claim) {
-    return table.hasClaim(claim) ? freshProofs().countLeast(claim) : NO_SUCH;
+    return table.hasClaim(claim) ? freshProofs().countLeast(table.allSteps(), claim) : NO_SUCH;
   }
 
   public int needs(int claim) {
@@ -489,13 +489,7 @@ public final class ProvedTable {
     if (!table.isTold()) {
       return NO_SUCH;
     }
-    lengthOfDuel();
-    for (int step = 0; step < table.steps; step++) {
-      if (table.goes(step, table.salt) && isLostFrom(table.salt | 1 << table.gives[step])) {
-        return step;
-      }
-    }
-    return NONE;
+    return (lengthOfDuel() & 1) == 1 ? table.firstGoing(table.allSteps(), table.salt) : NONE;
   }
 
   public int lasts() {
@@ -901,7 +895,7 @@ public final class ProvedTable {
 
   private Sheet freshProofs() {
     if (isProofSheetStale) {
-      proofSheet.fillWithProofs(table, table.salt);
+      proofSheet.fillWithProofs(table, table.allSteps(), table.salt);
       isProofSheetStale = false;
     }
     return proofSheet;
@@ -930,8 +924,9 @@ public final class ProvedTable {
   /** Worths of the MENU of a GUEST, were a CLAIM PROVED at first (that CLAIM aside). */
   private int worthWithLemma(int guest, int claim) {
     int start = table.salt | 1 << claim;
-    scratch.fillWithProofs(table, start);
-    int set = scratch.menuSet(table, table.knows[guest], table.canDo(guest));
+    int known = table.knows[guest];
+    scratch.fillWithProofs(table, known, start);
+    int set = scratch.menuSet(table, known, table.canDo(guest));
     return table.worthOf(scratch.at[set] & ~start);
   }
 
@@ -965,14 +960,12 @@ public final class ProvedTable {
     return best;
   }
 
-  /** How many STEPS the DUEL has; whoever begins does the odd ones, so an odd last one wins. */
+  /**
+   * How many STEPS the DUEL has. Each that goes PROVES one CLAIM more, and it is over when all that
+   * can be PROVED is: so however the two play, it has as many STEPS as there are such CLAIMS.
+   */
   private int lengthOfDuel() {
-    scratch.fillWithDuels(table);
-    return scratch.at[table.salt];
-  }
-
-  private boolean isLostFrom(int provedThen) {
-    return (scratch.at[provedThen] & 1) == 0;
+    return Integer.bitCount(provedByAll() & ~table.salt);
   }
 
   private int coreSet() {
@@ -1414,14 +1407,16 @@ public final class ProvedTable {
         return NONE;
       }
       advance();
-      if (operator == NO_OPERATOR) {
-        return holds;
-      }
-      int one = readForm(draft, formsAround + 1);
+      return operator == NO_OPERATOR ? holds : readParts(draft, operator, formsAround + 1);
+    }
+
+    /** The FORMS behind a word that joins them, and the WORLDS of the whole. */
+    private int readParts(Table draft, int operator, int formsAround) {
+      int one = readForm(draft, formsAround);
       if (one == NONE || operator == NOT) {
         return one == NONE ? NONE : draft.allWorlds() & ~one;
       }
-      int other = readForm(draft, formsAround + 1);
+      int other = readForm(draft, formsAround);
       if (other == NONE) {
         return NONE;
       }
@@ -1618,98 +1613,85 @@ public final class ProvedTable {
     }
   }
 
-  /** A number for each of so many sets; its index is the set. */
+  /** A number for each subset of some whole; its index is the subset, as bits. */
   private static final class Sheet {
     final int[] at;
-    private int sets;
 
     Sheet() {
       at = new int[SETS];
-      sets = 1;
     }
 
-    /** For sets of STEPS: what they PROVE, if a start is PROVED at first. */
-    void fillWithProofs(Table table, int start) {
-      sets = Math.min(SETS, 1 << table.steps);
+    private static int subsetsOf(int whole) {
+      return 1 << Integer.bitCount(whole);
+    }
+
+    /** The subset that is next above one, the empty one behind the last. */
+    private static int subsetBehind(int set, int whole) {
+      return (set - whole) & whole;
+    }
+
+    private static int withoutLowest(int set) {
+      return set & (set - 1);
+    }
+
+    /** For subsets of some STEPS: what they PROVE, if a start is PROVED at first. */
+    void fillWithProofs(Table table, int steps, int start) {
       at[0] = start;
-      for (int set = 1; set < sets; set++) {
-        int proved = at[set & (set - 1)];
-        // All but its least STEP have gone as far as they go: without it nothing is new.
+      int set = 0;
+      for (int i = 1; i < subsetsOf(steps); i++) {
+        set = subsetBehind(set, steps);
+        int proved = at[withoutLowest(set)];
+        // All but its lowest STEP have gone as far as they go: without it nothing is new.
         at[set] = table.goes(lowestBit(set), proved) ? table.spread(set, proved) : proved;
       }
     }
 
-    /** For sets of salt: the CLAIMS that all STEPS PROVE from them alone. */
+    /** For subsets of the salt: the CLAIMS that all STEPS PROVE from them alone. */
     void fillWithSaltProofs(Table table) {
-      sets = Math.min(SETS, 1 << table.claims);
       at[0] = table.spread(table.allSteps(), 0);
-      for (int set = 1; set < sets; set++) {
-        if ((set & ~table.salt) == 0) {
-          int start = at[set & (set - 1)] | set;
-          at[set] = table.spread(table.allSteps(), start);
-        }
+      int set = 0;
+      for (int i = 1; i < subsetsOf(table.salt); i++) {
+        set = subsetBehind(set, table.salt);
+        at[set] = table.spread(table.allSteps(), at[withoutLowest(set)] | set);
       }
     }
 
-    /** For sets of CLAIMS: the WORLDS in which some of them does not hold. */
+    /** For subsets of the salt: the WORLDS in which some of them does not hold. */
     void fillWithRuledOut(Table table) {
-      sets = Math.min(SETS, 1 << table.claims);
       at[0] = 0;
-      for (int set = 1; set < sets; set++) {
-        int ruledOut = table.allWorlds() & ~table.holds[lowestBit(set)];
-        at[set] = at[set & (set - 1)] | ruledOut;
+      int set = 0;
+      for (int i = 1; i < subsetsOf(table.salt); i++) {
+        set = subsetBehind(set, table.salt);
+        at[set] = at[withoutLowest(set)] | (table.allWorlds() & ~table.holds[lowestBit(set)]);
       }
     }
 
-    /** For sets of PROVED CLAIMS: how many STEPS the DUEL still has. */
-    void fillWithDuels(Table table) {
-      sets = Math.min(SETS, 1 << table.claims);
-      for (int proved = sets - 1; proved >= 0; proved--) {
-        if ((table.salt & ~proved) == 0) {
-          at[proved] = stepsOfDuel(table, proved);
-        }
+    /** The smallest subset, the least of these, that has all that is wanted; or NONE. */
+    int leastSet(int whole, int wanted) {
+      if ((wanted & ~at[whole]) != 0) {
+        return NONE;
       }
-    }
-
-    private int stepsOfDuel(Table table, int proved) {
-      int soonestWin = NONE;
-      int latestLoss = 0;
-      for (int step = 0; step < table.steps; step++) {
-        if (table.goes(step, proved)) {
-          int many = 1 + at[proved | 1 << table.gives[step]];
-          boolean isWin = (many & 1) == 1;
-          if (isWin && (soonestWin == NONE || many < soonestWin)) {
-            soonestWin = many;
-          }
-          if (!isWin) {
-            latestLoss = Math.max(latestLoss, many);
-          }
-        }
-      }
-      return soonestWin != NONE ? soonestWin : latestLoss;
-    }
-
-    /** The smallest set, the least of these, of what is allowed, that has all that is wanted. */
-    int leastSet(int allowed, int wanted) {
-      int best = NONE;
-      int fewest = Integer.bitCount(allowed) + 1;
-      for (int set = 0; set < sets; set++) {
-        if ((set & ~allowed) == 0 && (wanted & ~at[set]) == 0
-            && Integer.bitCount(set) < fewest) {
+      int best = whole;
+      int set = 0;
+      for (int i = 0; i < subsetsOf(whole); i++) {
+        boolean hasAll = (wanted & ~at[set]) == 0;
+        if (hasAll && Integer.bitCount(set) < Integer.bitCount(best)) {
           best = set;
-          fewest = Integer.bitCount(set);
         }
+        set = subsetBehind(set, whole);
       }
       return best;
     }
 
-    /** How many sets have a CLAIM that none of them has with one left out. */
-    int countLeast(int claim) {
+    /** How many subsets have a CLAIM that none of them has with one left out. */
+    int countLeast(int whole, int claim) {
       int many = 0;
-      for (int set = 0; set < sets; set++) {
+      int set = 0;
+      for (int i = 0; i < subsetsOf(whole); i++) {
         if ((at[set] >> claim & 1) == 1 && isLeast(set, claim)) {
           many++;
         }
+        set = subsetBehind(set, whole);
       }
       return many;
     }
@@ -1725,19 +1707,23 @@ public final class ProvedTable {
     }
 
     /** The MENU's set: the most worth beyond what was PROVED at first, the smallest, the least. */
-    int menuSet(Table table, int allowed, int most) {
+    int menuSet(Table table, int whole, int most) {
       int best = 0;
       int bestWorth = 0;
-      for (int set = 1; set < sets; set++) {
+      int set = 0;
+      for (int i = 0; i < subsetsOf(whole); i++) {
+        int eaten = at[set] & ~at[0];
         int many = Integer.bitCount(set);
-        if ((set & ~allowed) == 0 && many <= most) {
-          int worth = table.worthOf(at[set] & ~at[0]);
+        // A set with a STEP that does not go is never the smallest for its worth.
+        if (many <= most && many == Integer.bitCount(eaten)) {
+          int worth = table.worthOf(eaten);
           boolean isSmaller = worth == bestWorth && many < Integer.bitCount(best);
           if (worth > bestWorth || isSmaller) {
             best = set;
             bestWorth = worth;
           }
         }
+        set = subsetBehind(set, whole);
       }
       return best;
     }

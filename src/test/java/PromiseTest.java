@@ -498,6 +498,32 @@ public final class PromiseTest {
     due("team(2) in famine", x.team(2), -1);
   }
 
+  private static void teamsOfMany() {
+    String claims = "";
+    String steps = "";
+    String guests = "";
+    for (int i = 0; i < 5; i++) {
+      claims += "claim worth 1 a;";
+      steps += "step " + (i + 1) + " from " + i + ";";
+      guests += "guest speed 1 knows " + i + ";";
+    }
+    ProvedTable x = told("table atoms 2 hours 1 holes 0;" + claims + "claim worth 1 b; salt 0;"
+        + steps + guests);
+    promise = 41;
+    due("fewest(5), all", x.fewest(5), 5);
+    due("fewest(4)", x.fewest(4), 4);
+    promise = 42;
+    due("team(5), all", x.team(5), 31);
+    due("team(4)", x.team(4), 15);
+    promise = 40;
+    due("together(15, 5)", x.together(15, 5), 0);
+    promise = 65;
+    putRow(x, 0, 1, 2);
+    due("lent(0, 0)", x.lent(0, 0), 2);
+    due("lent(0, 1)", x.lent(0, 1), 1);
+    due("lent(0, 2), nobody", x.lent(0, 2), 0);
+  }
+
   private static void doubts() {
     ProvedTable x = feast();
     int[][] due = {{0, 0, 1, 1}, {0, 1, 0, 0}, {1, 0, 1, 0}, {1, 1, 1, 0}, {2, 0, 0, 0},
@@ -562,6 +588,9 @@ public final class PromiseTest {
     putRow(x, 2, 0, 4);
     due("kitchen(2, 0), does not know it", x.kitchen(2, 0), 0);
     due("kitchen(2, 1), without", x.kitchen(2, 1), 0);
+    putRow(x, 2, 1, 0, 1, 4, 1, 2, 0, 0);
+    due("kitchen(2, 0), not through in time ends it", x.kitchen(2, 0), 2);
+    due("when(2, 2), not through in time ends it", x.when(2, 2), 5);
     putRow(x, 2, 0, 1, 0, 0);
     due("kitchen(2, 0), not PROVED ahead", x.kitchen(2, 0), 0);
     putRow(x, 2, 0, 0, 0);
@@ -967,6 +996,7 @@ public final class PromiseTest {
     proofs();
     menus();
     teams();
+    teamsOfMany();
     doubts();
     kitchens();
     duels();
