@@ -128,6 +128,11 @@ public final class PromiseTest {
     faulty(1, head + "claim worth 1 ^c ;");
     faulty(1, head + "claim worth 1 ^e ;");
     faulty(1, head + "claim worth 1 ^nota ;");
+    faulty(1, head + "claim worth 1 ^az ;");
+    faulty(1, head + "claim worth 1 a^` ;");
+    faulty(1, head + "claim worth 1 a^/ ;");
+    faulty(1, head + "claim worth 1^: a ;");
+    faulty(2, head + "claim worth ^199 a ;");
     faulty(1, head + "claim worth 1 and a ^;");
     faulty(1, head + "claim worth 1 a ^b ;");
     faulty(1, head + "claim worth 1 ^7 ;");
