@@ -1,5 +1,5 @@
 /** Each promise by its number, with answers that were worked out by hand from the document. */
-public final class PromiseTest {
+public final class PromiseTest extends Checks {
   private static final String FEAST = "table atoms 3 hours 12 holes 30 ;\n"
       + "claim worth 5 a ;\n"
       + "claim worth 3 if a b ;\n"
@@ -16,39 +16,11 @@ public final class PromiseTest {
       + "guest speed 2 knows 0 1 3 ;\n"
       + "guest speed 5 knows 4 0 2 0 ;\n"
       + "guest speed 3 knows 2 3 4 ;";
-  private static final int MIN = Integer.MIN_VALUE;
-  private static final int MAX = Integer.MAX_VALUE;
-
-  private static int wrong = 0;
-  private static int asked = 0;
-  private static int promise = 0;
-
-  private static void due(String call, long got, long want) {
-    asked++;
-    if (got != want) {
-      wrong++;
-      System.out.println("promise " + promise + ": " + call + " answered " + got + ", due is " + want);
-    }
-  }
 
   private static ProvedTable feast() {
     ProvedTable x = new ProvedTable();
     due("table() of the feast", Texts.tell(x, FEAST), 17);
     return x;
-  }
-
-  private static ProvedTable told(String text) {
-    ProvedTable x = new ProvedTable();
-    Texts.tell(x, text);
-    due("fault(0) of " + text, x.fault(0), 0);
-    return x;
-  }
-
-  private static void putRow(ProvedTable x, int slot, int... numbers) {
-    due("row", x.row(slot, 0, numbers.length), 0);
-    for (int i = 0; i < numbers.length; i++) {
-      due("write", x.write(slot, i, numbers[i]), 0);
-    }
   }
 
   /** A text has a FAULT of a kind at the place of a mark, which is taken out of the text. */
@@ -1013,9 +985,6 @@ public final class PromiseTest {
     countsAndImages();
     slots();
     withoutTable();
-    System.out.println(asked + " answers asked, " + wrong + " are not as due");
-    if (wrong != 0) {
-      System.exit(1);
-    }
+    finish();
   }
 }
