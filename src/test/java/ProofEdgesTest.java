@@ -71,6 +71,15 @@ public final class ProofEdgesTest extends Checks {
     due("shortest(4)", wide.shortest(4), 4);
     due("proof(4)", wide.proof(4), 512 + 64 + 8 + 1);
 
+    ProvedTable whole = laid(9, "step 1 from 0; step 2 from 1; step 3 from 2;");
+    dueInTurn("proofs of a chain", whole::proofs, 1, 1, 1, 1, 0, 0);
+    dueInTurn("needs of a chain", whole::needs, 0, 1, 3, 7, -1, -1);
+    for (int left = 2; left >= 0; left--) {
+      whole.drops();
+    }
+    dueInTurn("proofs without STEPS", whole::proofs, 1, 0, 0, 0, 0, 0);
+    dueInTurn("needs without STEPS", whole::needs, 0, -1, -1, -1, -1, -1);
+
     edge(29, "NONE: it can't be. -2 likewise");
     dueInTurn("needs", x::needs, 0, 1, 3, 0, -1, -1, -1);
     dueForAll("needs", x::needs, NO_CLAIMS, -2);
@@ -118,6 +127,11 @@ public final class ProofEdgesTest extends Checks {
     dueInTurn("menu", like::menu, 5, 15, 0, 10, 10);
     dueInTurn("course", like::course, 2, 24, 0, 6, 6);
     dueInTurn("dishes", like::dishes, 16, 36, 0, 24, 24);
+    ProvedTable cheap = told("table atoms 2 hours 9 holes 0; claim worth 9 a; claim worth 1 a;"
+        + "claim worth 0 a; salt 0; step 1 from 0; step 2 from 0; guest speed 1 knows 0 1;");
+    due("menu(0) of a worth of 1", cheap.menu(0), 1);
+    due("course(0) of a worth of 1", cheap.course(0), 1);
+    due("dishes(0) of a worth of 1", cheap.dishes(0), 2);
     edge(33, "III: a CLAIM (no salt) that it PROVES itself");
     ProvedTable salty = told(BOARD + "salt 1;");
     due("menu(0), without what is salt", salty.menu(0), 12);
@@ -161,6 +175,8 @@ public final class ProofEdgesTest extends Checks {
         "knows 3 1 0")).who(2), 1);
 
     ProvedTable z = board();
+    ProvedTable lasting = told(BOARD.replace("hours 10", "hours 99").replace("speed 3", "speed 1"));
+    dueInTurn("who in 99 hours", lasting::who, 7, 1, 1, 3, 0, 0, 0);
     edge(36, "NONE: there is none; -2: there is no such set, no TABLE");
     dueInTurn("host", z::host, 4, 1, -1, 3, -1, -1, -1, 0);
     dueForAll("host", z::host, NO_GUEST_SETS, -2);
@@ -189,6 +205,16 @@ public final class ProofEdgesTest extends Checks {
         + "guest speed 9 knows 2 1 3; guest speed 9 knows 2; guest speed 4 knows 0 3;");
     dueInTurn("lemma of like ones", like::lemma, 2, 3, 1);
     dueInTurn("brings of like ones", like::brings, 32, 32, 48);
+    ProvedTable opening = told("table atoms 2 hours 9 holes 0; claim worth 5 a; claim worth 6 a;"
+        + "claim worth 7 a; claim worth 8 a; salt 3; step 1 from 0; step 2 from 3;"
+        + "guest speed 4 knows 0 1; guest speed 9 knows 1; guest speed 9 knows 0;");
+    dueInTurn("lemma, the first CLAIM", opening::lemma, 0, -1, 0);
+    dueInTurn("brings of the first CLAIM", opening::brings, 6, 0, 6);
+    ProvedTable after = told("table atoms 2 hours 9 holes 0; claim worth 5 a; claim worth 6 a;"
+        + "claim worth 7 a; claim worth 8 a; salt 3; step 2 from 3; step 1 from 0;"
+        + "guest speed 4 knows 0 1;");
+    due("menu(0) by the first STEP", after.menu(0), 7);
+    due("brings(0) beyond the first STEP", after.brings(0), 6);
     edge(37, "worths of its MENU then, that CLAIM aside");
     ProvedTable aside = laid(9, "step 5 from 4; step 4 from 0; step 3 from 1;"
         + "guest speed 9 knows 0 1 2; guest speed 4 knows 0 1 2;");
@@ -225,6 +251,9 @@ public final class ProofEdgesTest extends Checks {
     dueInTurn("together(2, ..)", n -> x.together(2, n), 1, 0, 0, 1, 0, 0, 0);
     dueInTurn("together(3, ..)", n -> x.together(3, n), 1, 1, 1, 1, 0, 0, 0);
 
+    ProvedTable lasting = told(BOARD.replace("hours 10", "hours 99").replace("speed 3", "speed 1"));
+    dueInTurn("together(3, ..) in 99 hours", n -> lasting.together(3, n), 1, 1, 1, 1, 0, 0, 0);
+    dueInTurn("team in 99 hours", lasting::team, 0, 1, 1, 1, -1, -1, -1);
     edge(41, "NONE: none do; -2: there is no such CLAIM");
     dueInTurn("fewest", x::fewest, 0, 1, 1, 1, -1, -1, -1);
     dueForAll("fewest", x::fewest, NO_CLAIMS, -2);
@@ -313,6 +342,10 @@ public final class ProofEdgesTest extends Checks {
     dueForAll("spared", y::spared, NO_CLAIM_SETS, -2);
     due("spared(0) without a TABLE", new ProvedTable().spared(0), -2);
     dueInTurn("spared", y::spared, 0, 1, 1, 1, 1, 1, 1, 1, 1, 1, 1, 1, 1, 1, 1, 1, -1);
+    due("lemma(2), asked between", y.lemma(2), 6);
+    due("spare(1) behind it", y.spare(1), 1);
+    due("lemma(2), asked between", y.lemma(2), 6);
+    due("spared(64) behind it", y.spared(64), -1);
     edge(61, "the least set of so few");
     y.salt(1, 1);
     due("spared(15), of two as few", y.spared(15), 1);
@@ -389,9 +422,18 @@ public final class ProofEdgesTest extends Checks {
     due("adds, the twelfth again", x.adds(6, 1), 11);
     due("guest(1, 1)", x.guest(1, 1), 10);
     due("adds, beyond again", x.adds(6, 1), -3);
-    for (int left = 11; left >= 0; left--) {
+    for (int guest = 0; guest < 3; guest++) {
+      due("teach(.., 11, 1)", x.teach(guest, 11, 1), 0);
+    }
+    due("drops()", x.drops(), 11);
+    dueInTurn("guest(.., 1), nobody knows it", n -> x.guest(n, 1), 7, 10, 48);
+    for (int left = 10; left >= 0; left--) {
       due("drops()", x.drops(), left);
     }
+    dueInTurn("guest(.., 1) without STEPS", n -> x.guest(n, 1), 0, 0, 0);
+    ProvedTable five = told(BOARD + "guest speed 1 knows 5 4;guest speed 2 knows 0 5;");
+    due("drops() among five", five.drops(), 5);
+    dueInTurn("guest(.., 1) of five", n -> five.guest(n, 1), 7, 10, 16, 16, 1);
     edge(67, "-5: there is none; -2: there is no TABLE; -2 comes ahead of -5");
     due("drops(), none", x.drops(), -5);
     due("count(4)", x.count(4), 0);

@@ -149,6 +149,14 @@ public final class RowEdgesTest extends Checks {
     dueInTurn("used(2, ..), one does not go", n -> x.used(2, n), 0, 1, 0, 0, 0, 0, 0);
     putRow(x, 3);
     dueInTurn("used(3, ..) of none", n -> x.used(3, n), 0, 0, 0, 0, 0, 0, 0);
+    ProvedTable y = board();
+    y.salt(0, 0);
+    y.salt(1, 1);
+    y.adds(4, 13);
+    putRow(y, 0, 5, 3, 1, 6);
+    dueInTurn("used(0, ..), the first CLAIM too", n -> y.used(0, n), 32, 0, 34, 40, 106, 0, 0);
+    putRow(y, 1);
+    dueInTurn("used(1, ..) of none behind another", n -> y.used(1, n), 0, 0, 0, 0, 0, 0, 0);
     edge(24, "Whether two rows USE the same STEPS for a CLAIM: 1, 0");
     dueInTurn("same(0, 1, ..)", n -> x.same(0, 1, n), 1, 1, 1, 0, 1, 1, 1);
     dueInTurn("same(1, 2, ..)", n -> x.same(1, 2, n), 1, 1, 0, 0, 1, 1, 1);
@@ -262,6 +270,28 @@ public final class RowEdgesTest extends Checks {
     due("busy(0, 2, 1), ahead of its STEPS", z.busy(0, 2, 1), 3);
   }
 
+  private static void otherKitchens() {
+    ProvedTable x = told(LONG_BOARD);
+    edge(46, "salt: hour 0, whatever is salt now");
+    x.salt(0, 0);
+    x.salt(1, 1);
+    x.salt(6, 1);
+    putRow(x, 0, 2, 5);
+    dueInTurn("when(0, ..)", n -> x.when(0, n), 9, 0, -1, -1, -1, -1, 0);
+    dueKitchen(x, "the first CLAIM given", 1, 9, 1);
+    putRow(x, 1, 2, 4);
+    dueInTurn("shares(1, ..), asked first", n -> x.shares(1, n), 0, 0, 0, 0, 4, 0, 0);
+    dueInTurn("when(1, ..)", n -> x.when(1, n), -1, 0, -1, -1, 9, -1, 0);
+    putRow(x, 2, 1, 3);
+    due("busy(2, 1, 0), asked first, the first CLAIM not PROVED", x.busy(2, 1, 0), 0);
+    due("kitchen(2, 0), the first CLAIM not PROVED", x.kitchen(2, 0), 0);
+    due("busy(0, 2, 0), asked first", x.busy(0, 2, 0), 9);
+    due("kitchen(2, 2), nothing given", x.kitchen(2, 2), 0);
+    due("when(1, 4), asked first", x.when(1, 4), 9);
+    due("when(2, 4), asked first", x.when(2, 4), -1);
+    due("shares(0, 0), asked first", x.shares(0, 0), 4);
+  }
+
   private static void eaten() {
     edge(63, "-2: there is no such SLOT, no TABLE; -6: it has nothing");
     ProvedTable x = new ProvedTable();
@@ -315,6 +345,30 @@ public final class RowEdgesTest extends Checks {
     putRow(hasty, 0, 3);
     due("ate(0) in an hour", hasty.ate(0), 0);
     dueInTurn("borrowed(0, ..) in an hour", n -> hasty.borrowed(0, n), -1, -1, 3);
+    ProvedTable unsalted = board();
+    unsalted.salt(0, 0);
+    unsalted.salt(1, 1);
+    putRow(unsalted, 0, 2);
+    dueInTurn("borrowed(0, ..) of one", n -> unsalted.borrowed(0, n), 2, 2, 2);
+    putRow(unsalted, 0, 0);
+    dueInTurn("borrowed(0, ..) of the first CLAIM", n -> unsalted.borrowed(0, n), 0, 0, -1);
+    putRow(unsalted, 0);
+    dueInTurn("borrowed(0, ..) of no CLAIM", n -> unsalted.borrowed(0, n), -1, -1, -1);
+    edge(63, "SLOTS have rows of at most 60");
+    ProvedTable full = board();
+    due("row(0, 0, 60)", full.row(0, 0, 60), 0);
+    for (int i = 0; i < 60; i++) {
+      full.write(0, i, 1L);
+    }
+    due("ate(0) of sixty", full.ate(0), 1);
+    due("borrowed(0, 0) of sixty", full.borrowed(0, 0), -1);
+    due("lent(0, 1) of sixty", full.lent(0, 1), 1);
+    edge(65, "GUESTS (bits) that know a STEP that it must have borrowed, of five");
+    ProvedTable five = told(BOARD + "guest speed 1 knows 4;guest speed 1 knows 0 1;");
+    putRow(five, 0, 1, 2);
+    dueInTurn("lent(0, ..) of five", n -> five.lent(0, n), 0, 17, 17, 17, 0);
+    Texts.tell(five, BOARD);
+    dueInTurn("lent(0, ..) in place of five", n -> five.lent(0, n), 0, 1, 1);
     edge(65, "0: none, it needs none; whatever hours");
     dueInTurn("lent(0, ..) in an hour", n -> hasty.lent(0, n), 0, 0, 3);
   }
@@ -549,6 +603,7 @@ public final class RowEdgesTest extends Checks {
     usedSteps();
     refusedKitchens();
     kitchens();
+    otherKitchens();
     eaten();
     counts();
     images();

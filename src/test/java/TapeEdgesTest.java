@@ -155,6 +155,13 @@ public final class TapeEdgesTest extends Checks {
     due("claim(0, 0)", x.claim(0, 0), -2);
     due("proved()", x.proved(), 0);
 
+    ProvedTable y = told(TWO_STEPS + "guest speed 1 knows 1;salt 0;");
+    due("proved() of one", y.proved(), 7);
+    due("table() of another", Texts.tell(y, TWO_STEPS + "salt 2;"), 8);
+    due("proved() of another", y.proved(), 4);
+    due("shortest(1) of another", y.shortest(1), -1);
+    due("count(5) of another", y.count(5), 0);
+
     edge(4, "0: there is none then");
     due("table() of no bytes", x.table(), 0);
     due("fault(0) of no bytes", x.fault(0), 0);
@@ -413,6 +420,46 @@ public final class TapeEdgesTest extends Checks {
     faulty(1, HEAD + "claim worth 1 ^00 a;");
   }
 
+  private static void wordsAsTold() {
+    edge(5, "I: a TOKEN that can't stand there: a word that is not as told");
+    String whole = HEAD + "claim worth 1 and a or b if a not yes;claim worth 1 no;salt 0;"
+        + "step 1 from 0;guest speed 1 knows 0;";
+    fine(6, whole);
+    for (int i = 0; i < whole.length(); i++) {
+      char sign = whole.charAt(i);
+      if (Character.isLetter(sign)) {
+        int word = i;
+        while (word > 0 && Character.isLetter(whole.charAt(word - 1))) {
+          word--;
+        }
+        String behind = whole.substring(i + 1);
+        faultyAt(1, word, whole.substring(0, i) + "z" + behind);
+        faultyAt(1, word, whole.substring(0, i) + sign + sign + behind);
+      }
+    }
+  }
+
+  private static void tokensLeftOut() {
+    edge(5, "I: a TOKEN that can't stand there: the one behind what is left out");
+    String[] heads = {"^atoms 2 hours 9 holes 0;", "table ^2 hours 9 holes 0;",
+        "table atoms ^hours 9 holes 0;", "table atoms 2 ^9 holes 0;", "table atoms 2 hours ^holes 0;",
+        "table atoms 2 hours 9 ^0;", "table atoms 2 hours 9 holes ^;", "table atoms 2 hours 9 ^;",
+        "table atoms 2 hours ^;", "table atoms 2 ^;", "table atoms ^;", "table ^;",
+        "table ^hours 9 holes 0;", "table atoms 2 ^holes 0;", "table atoms 2 ^holes 0 hours 9;"};
+    for (String head : heads) {
+      faulty(1, head);
+    }
+    String[] lines = {"claim ^1 a;", "claim ^a;", "claim ^yes;", "claim ^not a;", "claim worth ^a;",
+        "claim worth ^not a;", "claim worth 1 ^;", "claim worth ^;", "claim ^;", "salt ^;",
+        "salt ^salt 0;", "step ^from 0;", "step 1 ^0;", "step 1 ^;", "step ^;", "step 1 from ^;",
+        "step 1 from ^step", "guest ^1 knows 0;", "guest ^knows 0;", "guest speed ^knows 0;",
+        "guest speed 1 ^0;", "guest speed 1 ^;", "guest speed ^;", "guest ^;", "guest ^0;",
+        "guest speed 1 knows ^;", "guest speed 1 knows ^guest"};
+    for (String line : lines) {
+      faulty(1, TWO_STEPS + line);
+    }
+  }
+
   private static void firstByPlace() {
     edge(5, "I: FAULTS, the first by its place (a TOKEN's first byte)");
     faulty(2, "table atoms ^7 hours 0 holes @");
@@ -502,6 +549,8 @@ public final class TapeEdgesTest extends Checks {
     likeOnes();
     atomsThereAre();
     tokens();
+    wordsAsTold();
+    tokensLeftOut();
     firstByPlace();
     oneTooMany();
     finish();

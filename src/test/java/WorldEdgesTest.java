@@ -228,11 +228,23 @@ public final class WorldEdgesTest extends Checks {
     like.salt(2, 1);
     due("idle(), another never holds", like.idle(), 3);
 
+    ProvedTable first = told("table atoms 2 hours 1 holes 0; claim worth 1 or a b; claim worth 1 b;"
+        + "salt 0; salt 1;");
+    due("idle() of the first", first.idle(), 1);
     edge(53, "NONE: all do in some; -2 likewise");
     due("core() of a new object", new ProvedTable().core(), -2);
     due("core() without salt", bare().core(), -1);
     x = board();
     due("core() of one", x.core(), -1);
+    for (int claim = 1; claim < 4; claim++) {
+      x.salt(claim, 1);
+    }
+    due("lemma(0), asked between", x.lemma(0), -1);
+    due("core() of four that hold together", x.core(), -1);
+    due("cored() of four that hold together", x.cored(), -1);
+    for (int claim = 1; claim < 4; claim++) {
+      x.salt(claim, 0);
+    }
     edge(53, "the fewest salt that hold in no WORLD together");
     due("core() of what never holds", like.core(), 1);
     x.salt(4, 1);
@@ -291,6 +303,15 @@ public final class WorldEdgesTest extends Checks {
     edge(56, "the first of several");
     due("ask() without salt", x.ask(), 0);
     due("leaves() without salt", x.leaves(), 2);
+    StringBuilder twelve = new StringBuilder("table atoms 2 hours 1 holes 0;");
+    for (int claim = 0; claim < 12; claim++) {
+      twelve.append("claim worth 1 ").append(claim < 11 ? "yes;" : "a;");
+    }
+    ProvedTable many = told(twelve.toString());
+    due("ask() of twelve, the last", many.ask(), 11);
+    due("leaves() of twelve", many.leaves(), 2);
+    Texts.tell(many, "table atoms 2 hours 1 holes 0;claim worth 1 yes;");
+    due("ask() of a TABLE in place of another", many.ask(), -1);
     edge(56, "that leaves fewest SALTED WORLDS at worst, if fewer than all");
     x.salt(0, 1);
     due("ask()", x.ask(), 1);
