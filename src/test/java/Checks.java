@@ -2,6 +2,8 @@
 abstract class Checks {
   static final int MIN = Integer.MIN_VALUE;
   static final int MAX = Integer.MAX_VALUE;
+  /** What an object answers behind so many calls is free, so no test asks for it. */
+  static final int MOST_CALLS = 512;
   /** A TABLE whose worths are powers of two, so that a sum of worths tells of which CLAIMS it is. */
   static final String BOARD = "table atoms 2 hours 10 holes 50;"
       + "claim worth 1 a;"

@@ -23,8 +23,9 @@ public final class NeverThrowsTest {
   private static long run(int seed, List<Method> face) throws ReflectiveOperationException {
     Texts draw = new Texts(seed);
     ProvedTable x = new ProvedTable();
-    long answers = seed % 5 == 0 ? 0 : Texts.tell(x, draw.table(12, 12, 5));
-    for (int i = 0; i < 512; i++) {
+    String text = seed % 5 == 0 ? "" : draw.table(12, 12, 5);
+    long answers = Texts.tell(x, text);
+    for (int i = Texts.callsToTell(text); i < Checks.MOST_CALLS; i++) {
       Method method = face.get(draw.below(face.size()));
       boolean isRare = List.of("table", "back", "drops").contains(method.getName());
       if (isRare && draw.below(8) > 0) {

@@ -13,12 +13,21 @@ public final class OracleTest {
   private final Oracle oracle = new Oracle();
   private final List<String> told = new ArrayList<>();
   private final Texts draw;
+  private int calls = 0;
 
   private OracleTest(long seed) {
     draw = new Texts(seed);
   }
 
-  private long both(Method method, Object... arguments) throws ReflectiveOperationException {
+  private boolean isUsedUp() {
+    return calls >= Checks.MOST_CALLS;
+  }
+
+  private void both(Method method, Object... arguments) throws ReflectiveOperationException {
+    if (isUsedUp()) {
+      return;
+    }
+    calls++;
     Method twin = Oracle.class.getMethod(method.getName(), method.getParameterTypes());
     long got = ((Number) method.invoke(x, arguments)).longValue();
     long want = ((Number) twin.invoke(oracle, arguments)).longValue();
@@ -31,13 +40,13 @@ public final class OracleTest {
         System.out.println("due is " + want + "\n");
       }
     }
-    return got;
   }
 
-  private long named(String name, Object... arguments) throws ReflectiveOperationException {
+  private void named(String name, Object... arguments) throws ReflectiveOperationException {
     for (Method method : ProvedTable.class.getDeclaredMethods()) {
       if (Modifier.isPublic(method.getModifiers()) && method.getName().equals(name)) {
-        return both(method, arguments);
+        both(method, arguments);
+        return;
       }
     }
     throw new NoSuchMethodException(name);
@@ -168,11 +177,11 @@ public final class OracleTest {
     }
     switch (kind) {
       case 'c':
-        return draw.below(x.count(3) + (slip < 10 ? 2 : 1)) - (slip < 8 ? 1 : 0);
+        return draw.below(oracle.count(3) + (slip < 10 ? 2 : 1)) - (slip < 8 ? 1 : 0);
       case 's':
-        return draw.below(x.count(4) + 1);
+        return draw.below(oracle.count(4) + 1);
       case 'g':
-        return draw.below(x.count(5) + (slip < 20 ? 1 : 0) + (x.count(5) == 0 ? 1 : 0));
+        return draw.below(oracle.count(5) + (slip < 20 ? 1 : 0) + (oracle.count(5) == 0 ? 1 : 0));
       case 'l':
         return draw.below(slip < 10 ? 5 : 4);
       case 'b':
@@ -180,10 +189,10 @@ public final class OracleTest {
       case 'w':
         return draw.below(slip < 10 ? 5 : 3);
       case 'C':
-        int most = slip < 50 ? 1 << x.count(3) : 8;
+        int most = slip < 50 ? 1 << oracle.count(3) : 8;
         return (draw.below(most) & draw.below(most)) + (slip < 6 ? most : 0);
       case 'G':
-        return draw.below((1 << x.count(5)) + (slip < 10 ? 1 : 0));
+        return draw.below((1 << oracle.count(5)) + (slip < 10 ? 1 : 0));
       case 'x':
         return slip < 50 ? draw.below(100) : draw.below(2000000020);
       default:
@@ -202,14 +211,14 @@ public final class OracleTest {
       for (int attempt = draw.below(4); attempt < 8 && !isGoing; attempt++) {
         if (kind == 0) {
           named("write", slot, i, (long) argument('s'));
-          isGoing = x.reads(slot) > i;
+          isGoing = oracle.reads(slot) > i;
         } else if (kind == 1) {
           named("write", slot, i, (long) argument(i % 2 == 0 ? 'g' : 's'));
-          isGoing = i % 2 == 0 ? draw.below(3) == 0 : x.kitchen(slot, 0) > i / 2;
+          isGoing = i % 2 == 0 ? draw.below(3) == 0 : oracle.kitchen(slot, 0) > i / 2;
         } else {
           int claim = argument('c');
           named("write", slot, i, (long) claim);
-          isGoing = x.claim(claim, 1) == 0;
+          isGoing = oracle.claim(claim, 1) == 0;
         }
       }
     }
@@ -225,7 +234,7 @@ public final class OracleTest {
     both(method, arguments);
   }
 
-  private void play(int calls, String text) throws ReflectiveOperationException {
+  private void play(int turns, String text) throws ReflectiveOperationException {
     List<Method> face = new ArrayList<>();
     for (Method method : ProvedTable.class.getDeclaredMethods()) {
       if (Modifier.isPublic(method.getModifiers()) && !method.getName().equals("table")) {
@@ -234,7 +243,7 @@ public final class OracleTest {
     }
     face.sort((a, b) -> a.getName().compareTo(b.getName()));
     tell(text);
-    for (int i = 0; i < calls; i++) {
+    for (int i = 0; i < turns && !isUsedUp(); i++) {
       if (draw.below(8) == 0) {
         fillRow();
       }

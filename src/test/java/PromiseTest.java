@@ -910,15 +910,7 @@ public final class PromiseTest extends Checks {
     due("write(1, 0, 1)", x.write(1, 0, 1L), -6);
     due("write(0, -1, 1)", x.write(0, -1, 1L), -7);
     for (int width = 0; width < 4; width++) {
-      x.row(1, width, 1);
-      for (int bits = 7; bits < 64; bits++) {
-        x.write(1, 0, 4L + (1L << bits));
-        boolean isCut = bits >= 8 << width;
-        due("reads, cut to " + width + " at " + bits, x.reads(1), isCut ? 0 : -2);
-        due("why", x.why(1), isCut ? 1 : -2);
-      }
-      x.write(1, 0, -256L * (1L << 8 * ((1 << width) - 1)));
-      due("write of a number whose low bytes are 0", x.reads(1), 1);
+      cutNumbers(width);
     }
     promise = 77;
     putRow(x, 0, 0, 1, 3, 2, 4);
@@ -945,6 +937,19 @@ public final class PromiseTest extends Checks {
     due("reads(0), 0 0 1 3 2", x.reads(0), 1);
     due("paste onto itself, down", x.paste(0, 1, 0, 0, 4), 0);
     due("reads(0), 0 1 3 2 2", x.reads(0), 4);
+  }
+
+  private static void cutNumbers(int width) {
+    ProvedTable x = feast();
+    x.row(1, width, 1);
+    for (int bits = 7; bits < 64; bits++) {
+      x.write(1, 0, 4L + (1L << bits));
+      boolean isCut = bits >= 8 << width;
+      due("reads, cut to " + width + " at " + bits, x.reads(1), isCut ? 0 : -2);
+      due("why", x.why(1), isCut ? 1 : -2);
+    }
+    x.write(1, 0, -256L * (1L << 8 * ((1 << width) - 1)));
+    due("write of a number whose low bytes are 0", x.reads(1), 1);
   }
 
   private static void withoutTable() {

@@ -494,8 +494,8 @@ public final class RowEdgesTest extends Checks {
 
   private static void widths() {
     edge(76, "Number i of the SLOT's row is v, cut to its WIDTH: 0");
-    ProvedTable x = board();
     for (int width = 0; width < 4; width++) {
+      ProvedTable x = board();
       int bits = 8 << width;
       due("row", x.row(0, width, 1), 0);
       for (int bit = 3; bit < 64; bit++) {
@@ -586,8 +586,7 @@ public final class RowEdgesTest extends Checks {
   private static void manyCalls() {
     edge(1, "An object is used for at most 512 calls after it has been made");
     ProvedTable x = board();
-    int told = (BOARD.length() + 19) / 20 + 2;
-    for (int call = told; call < 509; call++) {
+    for (int call = Texts.callsToTell(BOARD) + 1; call < MOST_CALLS - 2; call++) {
       due("brings(2)", x.brings(2), 16);
     }
     due("duel(), the 510th", x.duel(), 1);

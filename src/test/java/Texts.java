@@ -21,6 +21,11 @@ final class Texts {
     return x.table();
   }
 
+  /** How many calls it takes to tell a text. */
+  static int callsToTell(String text) {
+    return numbersOf(text).length / 5 + 2;
+  }
+
   static void feed(ProvedTable x, String text) {
     int[] f = numbersOf(text);
     for (int i = 0; i < f.length; i += 5) {
